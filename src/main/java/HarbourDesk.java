@@ -797,7 +797,8 @@ public final class HarbourDesk {
                 return false;
             }
             for (int turn = 0; turn <= MOST_TAPE && place != null; turn++) {
-                if (!readStep()) {
+                boolean fits = step == NAMES ? readNames() : step == MARKS ? readMark() : readPart();
+                if (!fits) {
                     return false;
                 }
             }
@@ -821,17 +822,6 @@ public final class HarbourDesk {
             place = tool.addPlace(null, name);
             at++;
             return true;
-        }
-
-        private boolean readStep() {
-            switch (step) {
-                case NAMES:
-                    return readNames();
-                case MARKS:
-                    return readMark();
-                default:
-                    return readPart();
-            }
         }
 
         private boolean readPart() {
