@@ -802,14 +802,14 @@ public final class HarbourDesk {
                     return false;
                 }
             }
-            if (scanner.kinds[at] != AT_END) {
+            if (kindHere() != AT_END) {
                 return fail(FORM_FAULT);
             }
             return findLinks();
         }
 
         private boolean readToolName(Tool[] tools, int toolCount) {
-            if (scanner.kinds[at] != NAME_TOKEN) {
+            if (kindHere() != NAME_TOKEN) {
                 return fail(FORM_FAULT);
             }
             Text name = textHere();
@@ -846,7 +846,7 @@ public final class HarbourDesk {
                 return fail(MANY_FAULT);
             }
             at++;
-            if (scanner.kinds[at] != NAME_TOKEN) {
+            if (kindHere() != NAME_TOKEN) {
                 return fail(FORM_FAULT);
             }
             Text name = textHere();
@@ -902,7 +902,7 @@ public final class HarbourDesk {
         }
 
         private boolean isFreeName() {
-            if (scanner.kinds[at] != NAME_TOKEN) {
+            if (kindHere() != NAME_TOKEN) {
                 return fail(FORM_FAULT);
             }
             Text name = textHere();
@@ -927,7 +927,7 @@ public final class HarbourDesk {
         }
 
         private boolean readOneName() {
-            if (scanner.kinds[at] != NAME_TOKEN) {
+            if (kindHere() != NAME_TOKEN) {
                 return fail(FORM_FAULT);
             }
             Text name = textHere();
@@ -979,13 +979,13 @@ public final class HarbourDesk {
                 return fail(MANY_FAULT);
             }
             at++;
-            if (scanner.kinds[at] != NAME_TOKEN) {
+            if (kindHere() != NAME_TOKEN) {
                 return fail(FORM_FAULT);
             }
             // room is taken at once, so that a third one is seen; its OPTION is found at the end
             linkSlots[linkCount] = option.addLink(mark);
             linkNames[linkCount] = textHere();
-            linkPlaces[linkCount] = scanner.starts[at];
+            linkPlaces[linkCount] = startHere();
             linkOwners[linkCount] = tool.optionCount - 1;
             linkMarks[linkCount] = mark;
             linkCount++;
@@ -994,7 +994,7 @@ public final class HarbourDesk {
         }
 
         private boolean readShort() {
-            if (scanner.kinds[at] != TEXT_TOKEN) {
+            if (kindHere() != TEXT_TOKEN) {
                 return fail(FORM_FAULT);
             }
             Text text = textHere();
@@ -1011,13 +1011,13 @@ public final class HarbourDesk {
         }
 
         private boolean readBound(int mark) {
-            if (scanner.kinds[at] != WHOLE_TOKEN) {
+            if (kindHere() != WHOLE_TOKEN) {
                 return fail(FORM_FAULT);
             }
             if (mark == MIN) {
-                option.min = scanner.numbers[at];
+                option.min = numberHere();
             } else {
-                option.max = scanner.numbers[at];
+                option.max = numberHere();
             }
             if (option.min > option.max || (option.tells(DEFAULT) && option.isBeyond(option.number))) {
                 return fail(SORT_FAULT);
@@ -1027,14 +1027,14 @@ public final class HarbourDesk {
         }
 
         private boolean readDefault() {
-            int kind = scanner.kinds[at];
+            int kind = kindHere();
             if (kind != WHOLE_TOKEN && kind != TEXT_TOKEN && kind != NAME_TOKEN) {
                 return fail(FORM_FAULT);
             }
             Text text = textHere();
             boolean fits = false;
             if (option.sort == INT) {
-                option.number = scanner.numbers[at];
+                option.number = numberHere();
                 fits = kind == WHOLE_TOKEN && !option.isBeyond(option.number);
             } else if (option.sort == ONE) {
                 option.number = option.nameNumber(text);
@@ -1056,7 +1056,7 @@ public final class HarbourDesk {
         }
 
         private boolean readEnv() {
-            if (scanner.kinds[at] != NAME_TOKEN) {
+            if (kindHere() != NAME_TOKEN) {
                 return fail(FORM_FAULT);
             }
             option.env = textHere();
@@ -1080,22 +1080,39 @@ public final class HarbourDesk {
 
         private boolean fail(int which) {
             fault = which;
-            faultPlace = scanner.starts[at];
+            faultPlace = startHere();
             return false;
         }
 
+        // the last token is never passed, but a token is only read where there is one
+        private int kindHere() {
+            return at < scanner.size ? scanner.kinds[at] : AT_END;
+        }
+
+        private int numberHere() {
+            return at < scanner.size ? scanner.numbers[at] : 0;
+        }
+
+        private int startHere() {
+            return at < scanner.size ? scanner.starts[at] : scanner.last;
+        }
+
+        private int endHere() {
+            return at < scanner.size ? scanner.ends[at] : scanner.last;
+        }
+
         private int wordHere() {
-            return scanner.kinds[at] == WORD_TOKEN ? scanner.numbers[at] : NONE;
+            return kindHere() == WORD_TOKEN ? numberHere() : NONE;
         }
 
         private boolean isSign(char sign) {
-            return scanner.kinds[at] == SIGN_TOKEN && scanner.numbers[at] == sign;
+            return kindHere() == SIGN_TOKEN && numberHere() == sign;
         }
 
         // the marks of a TEXT are left out
         private Text textHere() {
-            int edge = scanner.kinds[at] == TEXT_TOKEN ? 1 : 0;
-            return new Text(signs, scanner.starts[at] + edge, scanner.ends[at] - edge);
+            int edge = kindHere() == TEXT_TOKEN ? 1 : 0;
+            return new Text(signs, startHere() + edge, endHere() - edge);
         }
 
         private boolean takeWord(int number) {
@@ -1696,17 +1713,15 @@ public final class HarbourDesk {
 
         private boolean bindValue(int number, int placeInWord, Text inWord) {
             boolean isNext = inWord == null;
-            boolean isThere = !isNext || at + 1 < line.size;
-            if (!isThere && !isForEnds) {
-                return fail(NO_VALUE, placeInWord, number);
-            }
-            if (draft.sources[number] == BY_LINE && tool.options[number].sort != LIST) {
-                return fail(SECOND_VALUE, placeInWord, number);
-            }
+            boolean isSecond = draft.sources[number] == BY_LINE && tool.options[number].sort != LIST;
             draft.sources[number] = BY_LINE;
-            if (!isThere) {
+            // ahead of a second time: of both the BLAME is 8, which ENDS do without
+            if (isNext && at + 1 >= line.size) {
                 waiting = number;
-                return true;
+                return isForEnds || fail(NO_VALUE, placeInWord, number);
+            }
+            if (isSecond) {
+                return fail(SECOND_VALUE, placeInWord, number);
             }
             at = isNext ? at + 1 : at;
             owners[at] = number;
@@ -2008,7 +2023,9 @@ public final class HarbourDesk {
                 return;
             }
             if (sort != LIST) {
-                texts[number].printQuotedOn(page);
+                if (texts[number] != null) {
+                    texts[number].printQuotedOn(page);
+                }
                 return;
             }
             for (int k = 0; k < numbers[number]; k++) {

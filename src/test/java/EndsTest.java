@@ -86,6 +86,8 @@ public final class EndsTest {
     d.endsAre("quay --lst 1 --lst ", "");
     d.endsAre("quay load --way d", "down");
     d.endsAre("quay --who l", "");
+    d.endsAre("quay --who=ann --who an", "ann anton");
+    d.endsAre("quay --num=1 -n ", "");
     d.endsAre("quay --who ann ", "--num --flg --cnt --lst");
   }
 

@@ -469,8 +469,9 @@ final class Oracle {
         k--;
       }
       if (taker == null) continue;
-      if (given == null && i + 1 == words.size() && !forEnds) throw new Stop(8, i, k, taker.number, -1);
-      if (rec.sources.containsKey(taker.number) && !taker.sort.equals("list")) throw new Stop(9, i, k, taker.number, -1);
+      boolean lacks = given == null && i + 1 == words.size();
+      if (lacks && !forEnds) throw new Stop(8, i, k, taker.number, -1);
+      if (!lacks && rec.sources.containsKey(taker.number) && !taker.sort.equals("list")) throw new Stop(9, i, k, taker.number, -1);
       rec.sources.put(taker.number, 0);
       if (given != null) values.add(new Object[] {i, taker, given});
       else if (i + 1 < words.size()) values.add(new Object[] {++i, taker, words.get(i)});
