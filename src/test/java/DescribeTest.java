@@ -16,7 +16,7 @@ public final class DescribeTest {
     d.tool(0, "tool a end;");
     d.tool(1, "\n tool\nb  opt x int min -5max 7default 3;\nend ; \n");
     d.tool(2, "tool c opt x one(a,b9-z)short\"x\"; end;");
-    d.tool(3, "tool abcdefghij opt y text default \"123456789012\"; end;");
+    d.tool(3, "tool abcdefghij opt y text default \"12345678901~\"; end;");
     d.tool(4, "tool d opt y text default \"\"; end;");
     d.tool(5, "tool e opt y int min -999999 max 999999; end;");
     d.fault("tool f opt y int max 1234567; end;", 1, 21);
@@ -30,6 +30,9 @@ public final class DescribeTest {
     d.fault("tool f opt y text default \"a; end;", 1, 26);
     d.fault("tool f opt y text default \"a\nb\"; end;", 1, 26);
     d.fault("tool f opt y text default \"\u007f\"; end;", 1, 26);
+    d.feed("tool f opt y text default \"a\"; end;");
+    Desk.due("the text ends beyond n", d.x.describe(28), -9);
+    Desk.due("its place", d.x.fault(), 26);
     d.fault("tool f\tend;", 1, 6);
     d.fault("tool f end;\u0000", 1, 11);
     d.fault("tool int end;", 1, 5);

@@ -5,6 +5,8 @@ final class Desk {
   static int wrong = 0;
   static int asked = 0;
   final HarbourDesk x = new HarbourDesk();
+  // what stands on the tape behind a text, and is no part of it
+  char behind = ' ';
 
   static void due(String what, long got, long want) {
     asked++;
@@ -27,12 +29,12 @@ final class Desk {
     System.exit(wrong == 0 ? 0 : 1);
   }
 
-  /** Puts a text on the tape, with blanks up to a multiple of twenty; answers its length. */
+  /** Puts a text on the tape, with other bytes up to a multiple of twenty; answers its length. */
   int feed(String text) {
     for (int i = 0; i < text.length(); i += 20) {
       int[] five = new int[5];
       for (int k = 0; k < 20; k++) {
-        int b = i + k < text.length() ? text.charAt(i + k) & 255 : 32;
+        int b = i + k < text.length() ? text.charAt(i + k) & 255 : behind;
         five[k / 4] = five[k / 4] << 8 | b;
       }
       x.feed(five[0], five[1], five[2], five[3], five[4]);

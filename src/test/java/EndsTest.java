@@ -202,8 +202,11 @@ public final class EndsTest {
     d.tool(3, "tool more end;");
     d.puts(0, "a=b", 1);
     Desk.due("ENDS stay", d.names(0), "quay quit");
+    d.ends("b");
+    Desk.due("behind the last", d.x.show(0, 1), -1);
     d.run("quai");
     Desk.due("ENDS go", d.x.count(7), 0);
+    Desk.due("show(0, 0)", d.x.show(0, 0), -1);
     Desk.due("NEAR", d.names(1), "quay");
     d.run("quay");
     Desk.due("NEAR go", d.x.count(8), 0);

@@ -72,6 +72,10 @@ public final class FaceTest {
     d.puts(0, "x=a\u007f", 0);
     d.puts(0, "x=\u001f", 0);
     d.puts(0, "x=~", 1);
+    d.feed("spd=\n");
+    Desk.due("= is beyond n", d.x.put(0, 3), 0);
+    d.feed("spd=\n");
+    Desk.due("a bad byte is beyond n", d.x.put(0, 4), 1);
     Desk.due("count(4)", d.x.count(4), 5);
     d.puts(1, "a=1", 1);
     d.puts(1, "a.b.c.d.e.f=1", 1);

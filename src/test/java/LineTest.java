@@ -62,6 +62,13 @@ public final class LineTest {
     d.blamed("berth \"\\\u0001\"", "1 -1 8 -1 -1 0");
     d.blamed("berth \\\t", "1 -1 7 -1 -1 0");
     d.runs("berth # \t\u00ff '", 0);
+    d.feed("berth 'a' \"b\" c");
+    Desk.due("the quote is beyond n", d.x.run(8), -19);
+    d.feed("berth \"a\" c");
+    Desk.due("the quote is beyond n", d.x.run(8), -19);
+    d.feed("berth \"a\\\" c");
+    Desk.due("the quote is beyond n", d.x.run(9), -19);
+    Desk.due("its place", d.x.blame(2), 6);
     d.blamed("berth a'b", "1 -1 7 -1 -1 0");
     d.blamed("berth \"a b", "1 -1 6 -1 -1 0");
     d.blamed("berth \"a\\\"", "1 -1 6 -1 -1 0");
@@ -121,6 +128,10 @@ public final class LineTest {
     d.runs("many" + Desk.times(" a", 32), 0);
     Desk.due("sixty", d.x.blame(5), 60);
     d.blamed("many" + Desk.times(" a", 33), "2 -1 0 -1 -1 0");
+    Desk thirty = new Desk().tool(0, "tool a rest r text; end;");
+    thirty.puts(2, "b=" + Desk.times("a ", 30), 1);
+    thirty.runs("b c", 0);
+    Desk.due("words of an alias", thirty.words(), "a" + Desk.times("|a", 29) + "|c");
     Desk chain = berth();
     for (int i = 0; i < 19; i++) chain.puts(2, "a" + i + "=a" + (i + 1) + " x", 1);
     chain.puts(2, "a19=berth", 1);
@@ -230,7 +241,8 @@ public final class LineTest {
 
   static void days(Desk d) {
     String[] wrong = {"2023-02-29", "1900-02-29", "2024-13-01", "2024-00-01", "2024-04-31", "2024-01-00", "2024-1-01",
-      "2024-01-1", "02024-01-01", "1599-12-31", "2400-01-01", "2024/01/01", "", "2024-01-01x", "-024-01-01", "20a4-01-01"};
+      "2024-01-1", "02024-01-01", "1599-12-31", "2400-01-01", "2024/01/01", "", "2024-01-01x", "-024-01-01", "20a4-01-01",
+      "2024-02-30", "2024x01-01", "2024-01x01"};
     for (String day : wrong) d.blamed("berth load --date '" + day + "'", "11 3 0 6 -1 4");
     String[] right = {"1970-01-01", "1969-12-31", "1600-01-01", "2399-12-31", "2000-02-29", "1600-02-29", "2100-03-01"};
     for (String day : right) {

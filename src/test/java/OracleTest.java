@@ -44,6 +44,7 @@ public final class OracleTest {
   }
 
   void step() {
+    d.behind = " '\"\\=5a;\n".charAt(below(9));
     switch (below(10)) {
       case 0: describe(mutated(description(below(9)), 30)); break;
       case 1: case 2: put(); break;
