@@ -1555,11 +1555,24 @@ public final class HarbourDesk {
                 accuseLine(TOO_LONG, 0);
                 return;
             }
-            System.arraycopy(words, 1, words, more, size - 1);
+            moveWords(more - 1);
             for (int i = 0; i < more; i++) {
                 words[i] = aliases.words[row * aliases.wordRoom + i];
             }
             size = size - 1 + more;
+        }
+
+        // all but the first; from the side to which they go, so that none is lost
+        private void moveWords(int by) {
+            if (by > 0) {
+                for (int i = size - 1; i >= 1 && i + by < words.length; i--) {
+                    words[i + by] = words[i];
+                }
+            } else if (by < 0) {
+                for (int i = 1; i < size && i + by >= 0; i++) {
+                    words[i + by] = words[i];
+                }
+            }
         }
 
         void accuseLine(int which, int place) {

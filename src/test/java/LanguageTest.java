@@ -27,7 +27,7 @@ public final class LanguageTest extends TreePathScanner<Void, Void> {
       "String.length", "String.charAt", "String.isEmpty", "String.equals", "String.indexOf", "String.substring", "String.toCharArray",
       "StringBuilder.<init>", "StringBuilder.append", "StringBuilder.charAt", "StringBuilder.setCharAt", "StringBuilder.setLength",
       "StringBuilder.deleteCharAt", "StringBuilder.reverse", "StringBuilder.length", "StringBuilder.toString", "Math.max", "Math.min",
-      "Math.abs", "System.arraycopy", "IllegalArgumentException.<init>", "IllegalStateException.<init>", "NoSuchElementException.<init>",
+      "Math.abs", "IllegalArgumentException.<init>", "IllegalStateException.<init>", "NoSuchElementException.<init>",
       "Object.<init>"));
   static final Set<Tree.Kind> BANNED = new HashSet<>(Arrays.asList(Tree.Kind.LAMBDA_EXPRESSION, Tree.Kind.MEMBER_REFERENCE, Tree.Kind.TRY,
       Tree.Kind.SYNCHRONIZED, Tree.Kind.ASSERT, Tree.Kind.INSTANCE_OF, Tree.Kind.SWITCH_EXPRESSION, Tree.Kind.ENHANCED_FOR_LOOP));
