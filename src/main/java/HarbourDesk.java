@@ -1388,14 +1388,15 @@ public final class HarbourDesk {
         }
 
         boolean keep(Text key, Text value, Line cut) {
+            // the document refuses every row while there are 20, also one whose KEY is there
+            if (size >= MOST_ROWS) {
+                return false;
+            }
             int at = find(key);
             if (at == NONE) {
                 at = size;
+                size++;
             }
-            if (at >= MOST_ROWS) {
-                return false;
-            }
-            size = Math.max(size, at + 1);
             keys[at] = key;
             values[at] = value;
             wordCounts[at] = Math.min(cut.size, wordRoom);

@@ -106,9 +106,12 @@ public final class FaceTest {
   static void fullRows() {
     for (int sort = 0; sort < 3; sort++) {
       Desk d = new Desk();
-      for (int i = 0; i < 20; i++) d.puts(sort, "k" + i + "=" + i, 1);
-      d.puts(sort, "more=1", 0);
+      for (int i = 0; i < 19; i++) d.puts(sort, "k" + i + "=" + i, 1);
       d.puts(sort, "k3=new", 1);
+      Desk.due("rows behind one in its place", d.x.count(4 + sort), 19);
+      d.puts(sort, "k19=19", 1);
+      d.puts(sort, "more=1", 0);
+      d.puts(sort, "k3=newer", 0);
       Desk.due("rows", d.x.count(4 + sort), 20);
       if (sort == 2) {
         d.ends("k");

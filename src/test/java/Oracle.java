@@ -299,7 +299,7 @@ final class Oracle {
       }
     }
     Map<String, String> all = rows.get(sort);
-    if (!all.containsKey(key) && all.size() == 20) return 0;
+    if (all.size() == 20) return 0;
     all.put(key, value);
     return 1;
   }
