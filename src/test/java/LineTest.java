@@ -137,9 +137,11 @@ public final class LineTest {
     chain.puts(2, "a19=berth", 1);
     chain.runs("a0", 0);
     Desk.due("twenty aliases", chain.x.blame(5), 20);
-    chain.puts(2, "a19=a0", 1);
-    chain.blamed("a0", "3 0 0 -1 -1 20");
-    Desk.due("words then", chain.words(), "a0" + Desk.times("|x", 19));
+    Desk ring = berth();
+    for (int i = 0; i < 19; i++) ring.puts(2, "a" + i + "=a" + (i + 1) + " x", 1);
+    ring.puts(2, "a19=a0", 1);
+    ring.blamed("a0", "3 0 0 -1 -1 20");
+    Desk.due("words then", ring.words(), "a0" + Desk.times("|x", 19));
   }
 
   static void places() {
