@@ -1423,7 +1423,9 @@ public final class HarbourDesk {
         private int first;
         private int last;
         private int at;
-        private final char[] bytes = new char[MOST_LINE];
+        // of the WORD that is cut: where it begins, and its bytes
+        private int begin;
+        private final char[] bytes = new char[MOST_WORD];
         private int filled;
 
         boolean cut(char[] from, int start, int end) {
@@ -1451,11 +1453,14 @@ public final class HarbourDesk {
             return blame == 0;
         }
 
-        // both BLAMES 2 wait for the WORD's end: of one WORD the least is told
         private void cutWord() {
-            int begin = at;
+            begin = at;
             filled = 0;
-            while (at < last && blame == 0 && !isBlank(signs[at])) {
+            if (size >= words.length) {
+                accuseLine(TOO_LONG, begin - first);
+                return;
+            }
+            for (int turn = 0; turn < MOST_LINE && isInWord(); turn++) {
                 char sign = signs[at];
                 if (sign == '\'') {
                     cutSingle();
@@ -1467,59 +1472,56 @@ public final class HarbourDesk {
                     at = sign == '\\' ? at + 1 : at;
                     takeByte();
                 }
+                at++;
             }
-            if (blame != 0) {
-                return;
+            if (blame == 0) {
+                isOpen = at >= last;
+                words[size] = new Text(bytes, 0, filled);
+                size++;
             }
-            isOpen = at >= last;
-            if (filled > MOST_WORD || size >= words.length) {
-                accuseLine(TOO_LONG, begin - first);
-                return;
-            }
-            words[size] = new Text(bytes, 0, filled);
-            size++;
+        }
+
+        private boolean isInWord() {
+            return blame == 0 && at < last && !isBlank(signs[at]);
         }
 
         private void cutSingle() {
             int mark = at;
-            at++;
-            while (at < last && blame == 0 && signs[at] != '\'') {
+            for (at = mark + 1; at < last && blame == 0 && signs[at] != '\''; at++) {
                 takeByte();
             }
-            closeQuote(mark);
+            lookForClose(mark);
         }
 
         private void cutDouble() {
             int mark = at;
-            at++;
-            while (at < last && blame == 0 && signs[at] != '"') {
-                if (signs[at] == '\\' && at + 1 < last) {
-                    at++;
+            for (at = mark + 1; at < last && blame == 0 && signs[at] != '"'; at++) {
+                at = signs[at] == '\\' ? at + 1 : at;
+                // no byte comes from a \ at the LINE's end: the quote is not closed then
+                if (at < last) {
+                    takeByte();
                 }
-                takeByte();
             }
-            closeQuote(mark);
+            lookForClose(mark);
         }
 
-        private void closeQuote(int mark) {
-            if (blame != 0) {
-                return;
-            }
-            if (at >= last) {
+        private void lookForClose(int mark) {
+            if (blame == 0 && at >= last) {
                 accuseLine(BAD_LINE, mark - first);
             }
-            at++;
         }
 
         private void takeByte() {
             char sign = signs[at];
             if ((sign < 32 && sign != 10) || sign > 126) {
                 accuseLine(BAD_LINE, at - first);
-            } else if (filled < bytes.length) {
+            } else if (filled >= bytes.length) {
+                // told at the byte too many: what is wrong further right is met later
+                accuseLine(TOO_LONG, begin - first);
+            } else {
                 bytes[filled] = sign;
                 filled++;
             }
-            at++;
         }
 
         // the STEM is no WORD any more, but counts as one
@@ -1727,15 +1729,18 @@ public final class HarbourDesk {
 
         private boolean bindValue(int number, int placeInWord, Text inWord) {
             boolean isNext = inWord == null;
-            boolean isSecond = draft.sources[number] == BY_LINE && tool.options[number].sort != LIST;
-            draft.sources[number] = BY_LINE;
-            // ahead of a second time: of both the BLAME is 8, which ENDS do without
-            if (isNext && at + 1 >= line.size) {
-                waiting = number;
-                return isForEnds || fail(NO_VALUE, placeInWord, number);
+            boolean isLacking = isNext && at + 1 >= line.size;
+            // ahead of a second time: of both the BLAME is 8; in ENDS 8 is none, so that 9 stands
+            if (isLacking && !isForEnds) {
+                return fail(NO_VALUE, placeInWord, number);
             }
-            if (isSecond) {
+            if (draft.sources[number] == BY_LINE && tool.options[number].sort != LIST) {
                 return fail(SECOND_VALUE, placeInWord, number);
+            }
+            draft.sources[number] = BY_LINE;
+            if (isLacking) {
+                waiting = number;
+                return true;
             }
             at = isNext ? at + 1 : at;
             owners[at] = number;

@@ -10,6 +10,7 @@ public final class EndsTest {
     waiting();
     comments();
     blames();
+    secondTimes();
     aliases();
     limits();
     near();
@@ -86,8 +87,6 @@ public final class EndsTest {
     d.endsAre("quay --lst 1 --lst ", "");
     d.endsAre("quay load --way d", "down");
     d.endsAre("quay --who l", "");
-    d.endsAre("quay --who=ann --who an", "ann anton");
-    d.endsAre("quay --num=1 -n ", "");
     d.endsAre("quay --who ann ", "--num --flg --cnt --lst");
   }
 
@@ -119,6 +118,24 @@ public final class EndsTest {
     d.endsBlamed("quit x ", "10 1 0 -1 -1 2");
     d.endsAre("quit x", "");
     d.endsAre("qua", "quay");
+  }
+
+  // 8 is none at the end, so that 9 is left
+  static void secondTimes() {
+    Desk d = quay();
+    d.endsBlamed("quay --who=ann --who an", "9 2 2 5 -1 3");
+    d.endsBlamed("quay --who=ann --who ", "9 2 2 5 -1 3");
+    d.endsBlamed("quay --num=1 -n ", "9 2 1 0 -1 3");
+    d.endsBlamed("quay -n 1 -fn 5", "9 3 2 0 -1 4");
+    d.endsBlamed("quay -n 1 -n # x", "9 3 1 0 -1 4");
+    d.blamed("quay -n 1 -n", "8 3 1 0 -1 4");
+    d.blamed("quay -n 1 -n 2", "9 3 1 0 -1 5");
+    d.endsAre("quay -n 1 -n", "");
+    d.endsAre("quay -n ", "");
+    d.endsAre("quay --lst 1 --lst ", "");
+    d.endsAre("quay --who ann --num ", "");
+    d.puts(2, "w=quay --who ann --who", 1);
+    d.endsBlamed("w b", "9 3 2 5 -1 4");
   }
 
   static void aliases() {

@@ -9,6 +9,7 @@ public final class LineTest {
     cutting();
     badBytes();
     tooLong();
+    firstFromTheLeft();
     aliases();
     aliasLimits();
     places();
@@ -89,6 +90,35 @@ public final class LineTest {
     d.blamed("berth" + Desk.times(" a", 59) + "  b", "2 -1 125 -1 -1 0");
     d.blamed("berth" + Desk.times(" a", 60) + " b '", "2 -1 124 -1 -1 0");
     d.runs("berth" + Desk.times(" a", 59) + "  #b", 3);
+  }
+
+  // what is wrong is met byte by byte: a 41st byte, a 61st WORD's begin ahead of all that stands further right
+  static void firstFromTheLeft() {
+    Desk d = berth();
+    String forty = Desk.times("a", 40);
+    d.blamed("berth '" + forty + "b", "2 -1 6 -1 -1 0");
+    d.blamed("berth \"" + forty + "b", "2 -1 6 -1 -1 0");
+    d.blamed("berth '" + forty + "b\t'", "2 -1 6 -1 -1 0");
+    d.blamed("berth " + forty + "b\u00ff", "2 -1 6 -1 -1 0");
+    d.blamed("berth " + forty + "b\\", "2 -1 6 -1 -1 0");
+    d.blamed("berth " + forty + "\\b'", "2 -1 6 -1 -1 0");
+    d.blamed("berth " + forty + "\\", "1 -1 46 -1 -1 0");
+    d.blamed("berth " + forty + "'", "1 -1 46 -1 -1 0");
+    d.blamed("berth '" + forty, "1 -1 6 -1 -1 0");
+    d.blamed("berth \"" + forty + "\\", "1 -1 6 -1 -1 0");
+    d.blamed("berth '" + forty + "\\", "2 -1 6 -1 -1 0");
+    d.blamed("berth " + forty + "\t", "1 -1 46 -1 -1 0");
+    d.blamed("berth \t" + forty + "b", "1 -1 6 -1 -1 0");
+    d.blamed("berth " + forty + "b '", "2 -1 6 -1 -1 0");
+    d.endsBlamed("berth '" + forty + "b", "2 -1 6 -1 -1 0");
+    String sixty = "berth" + Desk.times(" a", 59);
+    d.blamed(sixty + " 'b", "2 -1 124 -1 -1 0");
+    d.blamed(sixty + " b\t", "2 -1 124 -1 -1 0");
+    d.blamed(sixty + " \\", "2 -1 124 -1 -1 0");
+    d.blamed(sixty + " \t", "2 -1 124 -1 -1 0");
+    d.blamed(sixty + "\t", "1 -1 123 -1 -1 0");
+    d.puts(2, "long='" + forty + "b'", 0);
+    d.puts(2, "long='" + forty + "'", 1);
   }
 
   static void aliases() {

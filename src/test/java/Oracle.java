@@ -321,6 +321,7 @@ final class Oracle {
       if (i == n) return all;
       if (line.charAt(i) == '#') { how[1] = true; return all; }
       int begin = i, open = -1;
+      if (all.size() == 60) throw new Stop(2, -1, begin, -1, -1);
       char quote = 0;
       StringBuilder word = new StringBuilder();
       for (; i < n; i++) {
@@ -334,9 +335,9 @@ final class Oracle {
         }
         if (c < 32 && c != 10 || c > 126) throw new Stop(1, -1, i, -1, -1);
         word.append(c);
+        if (word.length() > 40) throw new Stop(2, -1, begin, -1, -1);
       }
       if (quote != 0) throw new Stop(1, -1, open, -1, -1);
-      if (word.length() > 40 || all.size() == 60) throw new Stop(2, -1, begin, -1, -1);
       all.add(word.toString());
       how[0] = i == n;
     }
@@ -471,7 +472,7 @@ final class Oracle {
       if (taker == null) continue;
       boolean lacks = given == null && i + 1 == words.size();
       if (lacks && !forEnds) throw new Stop(8, i, k, taker.number, -1);
-      if (!lacks && rec.sources.containsKey(taker.number) && !taker.sort.equals("list")) throw new Stop(9, i, k, taker.number, -1);
+      if (rec.sources.containsKey(taker.number) && !taker.sort.equals("list")) throw new Stop(9, i, k, taker.number, -1);
       rec.sources.put(taker.number, 0);
       if (given != null) values.add(new Object[] {i, taker, given});
       else if (i + 1 < words.size()) values.add(new Object[] {++i, taker, words.get(i)});

@@ -151,7 +151,15 @@ public final class OracleTest {
       else s.append("--").append(one(6) ? "no-" : "").append(p.name).append(one(tidy ? 60 : 10) ? "x" : "");
       if (p.takes() ? !one(12) : one(12)) s.append(one(2) ? "=" : one(4) ? "" : " ").append(one(tidy ? 60 : 6) ? of(VALUES) : fitting(p));
     }
+    if (one(20)) lengthen(s);
     return s.append(one(4) ? " " : "").append(one(20) ? "# x" : "").toString();
+  }
+
+  // WORDS of about 40 bytes and about 60 WORDS, some of them not in order
+  void lengthen(StringBuilder s) {
+    if (one(2)) s.append(Desk.times(" a", 50 + below(12)));
+    s.append(' ').append(of(new String[] {"", "'", "\"", "b'c'"})).append(Desk.times("a", 36 + below(6)));
+    for (int n = below(4); n > 0; n--) s.append(of(new String[] {"'", "\"", "\\", "\t", "b", "\\'", " ", "#"}));
   }
 
   String fitting(Oracle.Opt p) {
