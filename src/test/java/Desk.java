@@ -4,6 +4,8 @@ import java.util.NoSuchElementException;
 final class Desk {
   static int wrong = 0;
   static int asked = 0;
+  // the document's sentence that is held now, told with each wrong answer
+  static String sentence = "";
   final HarbourDesk x = new HarbourDesk();
   // what stands on the tape behind a text, and is no part of it
   char behind = ' ';
@@ -12,7 +14,7 @@ final class Desk {
     asked++;
     if (got != want) {
       wrong++;
-      System.out.println(what + " answered " + got + ", due is " + want);
+      System.out.println(sentence + what + " answered " + got + ", due is " + want);
     }
   }
 
@@ -20,8 +22,12 @@ final class Desk {
     asked++;
     if (!got.equals(want)) {
       wrong++;
-      System.out.println(what + " answered <" + got + ">, due is <" + want + ">");
+      System.out.println(sentence + what + " answered <" + got + ">, due is <" + want + ">");
     }
+  }
+
+  static void hold(String words) {
+    sentence = "[" + words + "] ";
   }
 
   static void end() {
@@ -49,8 +55,9 @@ final class Desk {
 
   String page() {
     StringBuilder all = new StringBuilder();
-    for (int k = 0; x.octet(k) != HarbourDesk.NONE; k++) all.append((char) x.octet(k));
-    due("count(3) beside octet()", x.count(3), all.length());
+    int size = x.count(3);
+    for (int k = 0; k < size; k++) all.append((char) x.octet(k));
+    due("octet() behind the PAGE", x.octet(size), HarbourDesk.NONE);
     return all.toString();
   }
 
@@ -63,7 +70,8 @@ final class Desk {
 
   String names(int sort) {
     StringBuilder all = new StringBuilder();
-    for (int k = 0; k < x.count(7 + sort); k++) {
+    int many = x.count(7 + sort);
+    for (int k = 0; k < many; k++) {
       int n = x.show(sort, k);
       String name = page();
       due("show(" + sort + ", " + k + ")", n, name.length());
@@ -75,9 +83,14 @@ final class Desk {
 
   String words() {
     StringBuilder all = new StringBuilder();
-    for (int i = 0; i < x.blame(5); i++) {
+    int size = x.blame(5);
+    for (int i = 0; i < size; i++) {
       if (i > 0) all.append('|');
-      for (int k = 0; x.word(i, k) != HarbourDesk.NONE; k++) all.append((char) x.word(i, k));
+      int sign = x.word(i, 0);
+      for (int k = 1; sign != HarbourDesk.NONE; k++) {
+        all.append((char) sign);
+        sign = x.word(i, k);
+      }
     }
     return all.toString();
   }

@@ -268,7 +268,7 @@ public final class LineTest {
     d.blamed("berth load 5 x --mode=q", "11 3 0 -1 -1 5");
     d.blamed("berth load --mode=q x", "11 2 0 5 -1 4");
     d.blamed("berth load --speed 99 5 '' ", "11 5 0 -1 -1 6");
-    days(d);
+    days(berth());
   }
 
   static void days(Desk d) {
