@@ -1686,8 +1686,8 @@ public final class HarbourDesk {
         }
 
         private boolean bindLong(Text word) {
-            int equals = word.placeOf('=', 2);
-            Text name = word.part(2, equals == NONE ? word.size() : equals);
+            int split = word.placeOf('=', 2);
+            Text name = word.part(2, split == NONE ? word.size() : split);
             int number = tool.optionOf(place, name);
             int told = 1;
             if (number == NONE && name.startsWith("no-")) {
@@ -1699,9 +1699,9 @@ public final class HarbourDesk {
                 return fail(NO_OPTION, 2, NONE);
             }
             if (tool.options[number].takesValue()) {
-                return bindValue(number, 2, equals == NONE ? null : word.part(equals + 1, word.size()));
+                return bindValue(number, 2, split == NONE ? null : word.part(split + 1, word.size()));
             }
-            if (equals != NONE) {
+            if (split != NONE) {
                 return fail(VALUE_AT_FLAG, 2, number);
             }
             draft.tellSwitch(number, told);
